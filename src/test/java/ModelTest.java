@@ -2,9 +2,9 @@ import java.util.Random;
 
 /** Long runs of drawn calls (the same ones each time) on the program and on the Model. */
 public final class ModelTest {
-    private static final int RUNS = 4000;
+    private static final int RUNS = 1500;
     private static final int CALLS = 150;
-    private static final int FACES = 36;
+    private static final int FACES = 35;
 
     private final Random random;
     private final OralOrders x = new OralOrders();
@@ -66,6 +66,9 @@ public final class ModelTest {
             call(run, -3, 2, new int[] {upTo(2), 1 + upTo(1)});
         }
         tellLies(run);
+        if (random.nextBoolean()) {
+            call(run, -8, 6, new int[] {upTo(m.n - 1)});
+        }
     }
 
     private void tellLies(int run) {
@@ -157,7 +160,7 @@ public final class ModelTest {
             case 2: return new int[] {near(99999) - near(50000), near(999)};
             case 3: return new int[] {random.nextInt(), 0, -1, 0x20202020, random.nextInt()};
             case 4: return upTo(9) == 0 ? new int[] {near(300)} : new int[] {-1};
-            case 5: case 14: case 18: case 22: return new int[0];
+            case 5: case 13: case 14: case 18: return new int[0];
             case 6: return new int[] {someone()};
             case 7: return new int[] {near(9)};
             case 8: return new int[] {someone(), near(7)};
@@ -165,7 +168,7 @@ public final class ModelTest {
             case 10: return new int[] {someone(), 1 + near(m.t)};
             case 11: return path(new int[] {c, 0, 0}, 1);
             case 12: return new int[] {1 + near(m.t)};
-            case 13: case 15: return new int[] {near(1)};
+            case 15: return new int[] {near(1)};
             case 16: return new int[] {someone(), someone()};
             case 17: return new int[] {someone(), near(1)};
             case 19: return new int[] {someone(), near(3)};
@@ -233,7 +236,7 @@ public final class ModelTest {
             case 19: return x.signed(a[0], a[1]);
             case 20: return x.signedOf(a[0], a[1], a[2]);
             case 21: return x.taken(a[0], a[1], a[2], a[3]);
-            case 22: return x.covered() ? 1 : 0;
+            case 22: return x.status(a[0]);
             case 23: return x.king(a[0], a[1]);
             case 24: return x.kings(a[0]);
             case 25: return x.echoes(a[0], a[1]);
@@ -245,8 +248,7 @@ public final class ModelTest {
             case 31: return x.total(a[0], a[1]);
             case 32: return x.attacks(a[0], a[1], a[2], a[3]);
             case 33: return x.breaks(a[0], a[1], a[2], a[3]) ? 1 : 0;
-            case 34: return x.fewest(a[0], a[1]);
-            default: return x.status(a[0]);
+            default: return x.fewest(a[0], a[1]);
         }
     }
 
@@ -280,7 +282,7 @@ public final class ModelTest {
             case 19: return m.signed(a[0], a[1]);
             case 20: return m.signedOf(a[0], a[1], a[2]);
             case 21: return m.taken(a[0], a[1], a[2], a[3]);
-            case 22: return m.covered() ? 1 : 0;
+            case 22: return m.status(a[0]);
             case 23: return m.king(a[0], a[1]);
             case 24: return m.kings(a[0]);
             case 25: return m.echoes(a[0], a[1]);
@@ -292,8 +294,7 @@ public final class ModelTest {
             case 31: return m.total(a[0], a[1]);
             case 32: return m.attacks(a[0], a[1], a[2], a[3]);
             case 33: return m.breaks(a[0], a[1], a[2], a[3]) ? 1 : 0;
-            case 34: return m.fewest(a[0], a[1]);
-            default: return m.status(a[0]);
+            default: return m.fewest(a[0], a[1]);
         }
     }
 }
