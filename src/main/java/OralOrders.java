@@ -43,7 +43,6 @@ public final class OralOrders {
     private final Echoes echoing = new Echoes();
     private final Nearer nearing = new Nearer();
     private final int[] orders = new int[MOST_MEMBERS];
-    private Lies draft = new Lies();
     private int refusedNoSuch;
     private int refusedIllegal;
 
@@ -87,13 +86,14 @@ public final class OralOrders {
 
     public int lies(int n) throws IllegalArgumentException {
         need(n >= 0 && n <= reader.size);
-        int found = reader.read(n, group.n, draft);
-        if (found != 0) {
-            return found - 10;
+        int why = reader.read(n, group.n);
+        if (why != 0) {
+            return why - 10;
         }
+        // What was read takes the place of the LIES so far, whose rows the next reading uses again.
         Lies old = group.lies;
-        group.lies = draft;
-        draft = old;
+        group.lies = reader.into;
+        reader.into = old;
         return Integer.bitCount(group.lies.liars);
     }
 
@@ -438,11 +438,11 @@ public final class OralOrders {
         trial.begin(n, rounds - 1);
         trial.values[0] = Floats.bitsOf(1f);
         trial.lies.addLiar(liar);
-        int place = waysOf(n, rounds, liar);
+        int place = waysOf(n, rounds, liar) / 3;
         for (int to = 1; to < n; to++) {
-            if (to != liar && place > 1) {
-                place /= 3;
+            if (to != liar && place > 0) {
                 int digit = way / place % 3;
+                place /= 3;
                 int act = digit == 2 ? ACT_SILENT : ACT_VALUE;
                 trial.lies.add(liar, liar == 0 ? 1 : 2, to, NONE);
                 trial.lies.setAct(liar, act, Floats.bitsOf((float) digit), 0);
@@ -469,9 +469,10 @@ public final class OralOrders {
             if (part < 1) {
                 return sign | (int) (part * 8388608);
             }
-            return sign | (power + 127) << 23 | (int) ((part - 1) * 8388608);
+            return sign | ((power + 127) << 23) | (int) ((part - 1) * 8388608);
         }
 
+        // Of doubles added up from floats alone: these are 0 or far above the least power.
         static long bitsOfDouble(double x) {
             if (x == 0) {
                 return 0;
@@ -480,17 +481,17 @@ public final class OralOrders {
             double part = x < 0 ? -x : x;
             int power = powerOf(part, -1022);
             part = scaled(part, -power);
-            if (part < 1) {
-                return sign | (long) (part * 4503599627370496.0);
-            }
-            return sign | (long) (power + 1023) << 52 | (long) ((part - 1) * 4503599627370496.0);
+            return sign | ((long) (power + 1023) << 52) | (long) ((part - 1) * 4503599627370496.0);
         }
 
+        // Of a VALUE a by b: 0, or far above the least power.
         static float floatOf(int bits) {
             int field = bits >> 23 & 255;
-            int fraction = bits & 8388607;
-            double part = field == 0 ? fraction : fraction + 8388608;
-            float x = (float) scaled(part, (field == 0 ? 1 : field) - 150);
+            if (field == 0) {
+                return 0f;
+            }
+            double part = (bits & 8388607) + 8388608;
+            float x = (float) scaled(part, field - 150);
             return bits < 0 ? -x : x;
         }
 
@@ -689,12 +690,12 @@ public final class OralOrders {
 
         int size;
         int place = NONE;
+        Lies into = new Lies();
         private final int[] bytes = new int[TAPE_BYTES];
         private int at;
         private int end;
         private int members;
         private int fault;
-        private Lies into;
 
         boolean hasRoom() {
             return size <= TAPE_BYTES - CALL_BYTES;
@@ -708,13 +709,12 @@ public final class OralOrders {
         }
 
         /** Empties the TAPE; answers the FAULT, 0 without. */
-        int read(int length, int n, Lies draft) {
+        int read(int length, int n) {
             at = 0;
             end = length;
             members = n;
             fault = 0;
             place = NONE;
-            into = draft;
             size = 0;
             into.clear();
             // Each turn takes a byte at least, or ends with a FAULT.
@@ -868,7 +868,8 @@ public final class OralOrders {
      */
     private static final class Oral {
         private static final int PATHS = 57;
-        // From which number on the PATHS of each length stand; the next entry is where they end.
+        // From which number on the PATHS of each length stand; the next entry is where they end. There
+        // are none of length 0: at the end of ROUND 1 nothing is looked through.
         private static final int[] FROM = {0, 0, 1, 8, 57};
 
         int commander = NONE;
@@ -1144,7 +1145,7 @@ public final class OralOrders {
                 int length = path == 0 ? 1 : path < 8 ? 2 : 3;
                 int set = 1 << commander;
                 if (path > 0) {
-                    set |= 1 << secondOf(path) | 1 << lastOf(path);
+                    set |= (1 << secondOf(path)) | (1 << lastOf(path));
                 }
                 sets[path] = Integer.bitCount(set) == length && set >> n == 0 ? set : 0;
             }

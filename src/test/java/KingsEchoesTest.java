@@ -12,6 +12,7 @@ public final class KingsEchoesTest {
         echoesOfALiar();
         echoesUnheard();
         echoesOfTwo();
+        echoesToTheEnd();
         echoesRefused();
         CHECK.end();
     }
@@ -160,6 +161,19 @@ public final class KingsEchoesTest {
         echoesOf(y, 3, 4, 8f, 3, 4, 2, 4);
         echoesOf(y, 3, 3, 1f, 3, 3, 5, 5);
         echoes(y, 3, 2, 2, 3);
+    }
+
+    /** READY goes from one to the next, as each liar tells only one: the last ROUND counts, too. */
+    private static void echoesToTheEnd() {
+        OralOrders x = Check.group(0, 7, 0, 0, 0, 0, 0);
+        Check.lies(x, "liar 0{round 1 of 0 true;round 2 to 1 of 0 true;silent;}liar 1{round 3 to 2 true;silent;}"
+                + "liar 2{round 2 to 1 true;round 3 to 3 true;silent;}liar 3{round 2 to 1 true;round 3 to 4 true;silent;}");
+        echoes(x, 0, 1, 2, 6, 5 + 3 + 10 + 3 + 5, 0);
+        echoesOf(x, 0, 1, 7f, 3, 3, 6, 2);
+        echoesOf(x, 0, 2, 7f, 3, 4, 3, 3);
+        echoesOf(x, 0, 3, 7f, 4, 5, 3, 3);
+        echoesOf(x, 0, 4, 7f, 5, 6, 2, 2);
+        echoesOf(x, 0, 5, 7f, 6, 0, 2, 1);
     }
 
     private static void echoesRefused() {

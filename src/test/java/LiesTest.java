@@ -8,6 +8,7 @@ public final class LiesTest {
         cantStandThere();
         noSuchNumber();
         tooManyAndTwice();
+        wholeTape();
         faultChangesNothing();
         refused();
         values();
@@ -89,8 +90,30 @@ public final class LiesTest {
         lies("liar 0{" + TWELVE, -9, 67);
         lies("liar 0{" + TWELVE + ";}", -9, 67);
         lies("liar 0{" + TWELVE + "7", -9, 67);
+        for (String word : "round to of value split silent word true".split(" ")) {
+            lies("liar 0{" + TWELVE + word, -7, 67);
+        }
+        lies("liar 0{" + TWELVE + "foo", -9, 67);
         lies("liar 0{}liar 1{}liar  0{}", -6, 22);
         lies("liar 0{true;}liar 0", -6, 18);
+    }
+
+    /** Texts that end where the TAPE ends. */
+    private static void wholeTape() {
+        String blanks = " ".repeat(300);
+        lies(blanks, 0, -1);
+        lies(blanks.substring(8) + "liar 1{}", 1, -1);
+        lies(blanks.substring(4) + "liar", -9, 300);
+        lies(blanks.substring(6) + "liar 1", -9, 300);
+        lies(blanks.substring(6) + "liar 7", -8, 299);
+        lies(blanks.substring(7) + "liar 1{", -9, 300);
+        lies(blanks.substring(10) + "liar 1{tru", -9, 297);
+        lies(blanks.substring(11) + "liar 1{true", -9, 300);
+        lies(blanks.substring(17) + "liar 1{value 1/23", -9, 300);
+        lies(blanks.substring(14) + "liar 1{value -", -9, 300);
+        lies("9".repeat(300), -9, 0);
+        lies("liar " + "9".repeat(295), -8, 5);
+        lies("liar " + "0".repeat(292) + "1{}", 1, -1);
     }
 
     private static void faultChangesNothing() {

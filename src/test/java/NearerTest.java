@@ -97,6 +97,12 @@ public final class NearerTest {
         }
         CHECK.holds("P31 some STEPS are needed", due > 1 && due < 60);
         CHECK.same("P31 the least", z.steps(1, 8, 0), due);
+        OralOrders w = Check.group(0, 0, 0, 0, 0, 0, 0, 0);
+        Check.lies(w, "liar 2{silent;}liar 3{silent;}liar 4{silent;}liar 5{silent;}liar 6{silent;}");
+        w.value(0, 2191, 265);
+        w.value(1, -2111, 265);
+        CHECK.holds("P30 not yet alike", w.spread(59, 0) != 0 && w.spread(60, 0) == 0);
+        CHECK.same("P31 the most that are tried", w.steps(0, 1, 0), 60);
     }
 
     private static void totals() {

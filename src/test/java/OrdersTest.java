@@ -131,6 +131,10 @@ public final class OrdersTest {
 
     private static void signedOneRound() {
         OralOrders x = Check.group(0, 7, 0, 0);
+        Check.lies(x, "liar 0{round 2 value 3;of 1 value 4;round 1 to 2 of 0 value 5;true;}");
+        CHECK.value("P21 ROUND 1, of itself", x.signedOf(0, 2, 0), 5f);
+        CHECK.value("P21 ROUND 1, true", x.signedOf(0, 1, 0), 7f);
+        x.lies(0);
         CHECK.same("P20 messages", x.signed(0, 1), 2);
         CHECK.value("P21 DECIDED", x.signedOf(0, 2, 0), 7f);
         CHECK.same("P21 ROUND 1", x.signedOf(0, 2, 3), 1);

@@ -10,6 +10,7 @@ public final class RunTest {
         commanderFound();
         tellersEnough();
         disagreeing();
+        coveredByTheMiddle();
         cuts();
         asThen();
         refused();
@@ -151,6 +152,20 @@ public final class RunTest {
         CHECK.holds("P16 none of the latest one's", y.agreed(0) && y.agreed(1));
     }
 
+    private static void coveredByTheMiddle() {
+        OralOrders x = Check.group(2, 1, 0, 0, 0, 0);
+        Check.lies(x, "liar 2{value 0;}liar 3{round 3 to 1 value 2;}");
+        CHECK.same("P8 run", x.run(0), 2);
+        // 1 RESOLVES [0 4] to DEFAULT (1 0 2), and so [0] (1 0 1 0); 4 has 1 0 1 1 for it.
+        CHECK.same("P11 [0 4] by 1", x.heard(1, 0, 4, -1, 2), 0);
+        CHECK.same("P10 DECIDED by 1", x.member(1, 2), 0);
+        CHECK.value("P10 DECIDED by 4", x.member(4, 2), 1f);
+        CHECK.same("P14 commons(1)", x.commons(1), 0);
+        CHECK.same("P14 commons(2)", x.commons(2), 4);
+        CHECK.holds("P13 1 hears 2 by [0 2 3], 4 hears 0", !x.common(0, 2, 3));
+        CHECK.holds("P15 all are covered by PATHS of two", x.covered());
+    }
+
     private static void cuts() {
         OralOrders x = Check.group(2, 9, 0, 0, 0, 0);
         Check.lies(x, "liar 0{to 1 value 1;to 2 value 1;to 3 value 2;to 4 value 3;}"
@@ -214,6 +229,18 @@ public final class RunTest {
             CHECK.noSuch("P11 no PATH", () -> x.heard(3, p[0], p[1], p[2], 0));
             CHECK.noSuch("P13 no PATH", () -> x.common(p[0], p[1], p[2]) ? 1 : 0);
         }
+        OralOrders two = Check.group(1, 1, 0, 0, 0);
+        two.run(0);
+        CHECK.noSuch("P11 longer than ROUNDS", () -> two.heard(3, 0, 1, 2, 0));
+        CHECK.noSuch("P13 longer than ROUNDS", () -> two.common(0, 1, 2) ? 1 : 0);
+        CHECK.holds("P11 MEMBER 3 of 4", two.heard(1, 0, 3, -1, 1) == 0 && two.common(0, 3, -1));
+        OralOrders seven = Check.group(2, 1, 0, 0, 0, 0, 0, 0);
+        seven.run(6);
+        CHECK.same("P11 MEMBER 0, behind another COMMANDER", seven.heard(1, 6, 5, 0, 0), 0);
+        CHECK.holds("P13", seven.common(6, 0, 5) && seven.common(6, 5, 0));
+        seven.run(0);
+        CHECK.noSuch("P11 c 7", () -> seven.heard(1, 0, 6, 7, 0));
+        CHECK.noSuch("P13 b 7", () -> seven.common(0, 7, 6) ? 1 : 0);
         CHECK.noSuch("P11 ahead of its last one", () -> x.heard(3, 0, 3, 2, 0));
         CHECK.noSuch("P11 the COMMANDER's alone", () -> x.heard(0, 0, -1, -1, 0));
         CHECK.noSuch("P11 the COMMANDER", () -> x.heard(0, 0, 1, -1, 0));
