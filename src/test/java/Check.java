@@ -7,6 +7,10 @@ final class Check {
     private int wrong;
     private int asked;
 
+    long asked() {
+        return asked;
+    }
+
     void same(String what, long got, long due) {
         asked++;
         if (got != due) {
@@ -57,6 +61,14 @@ final class Check {
     static int lies(OralOrders x, String text) {
         feed(x, text);
         return x.lies(text.length());
+    }
+
+    /** The same object with these LIES, which have no FAULT. */
+    static OralOrders lying(OralOrders x, String text) {
+        if (lies(x, text) < 0) {
+            throw new IllegalArgumentException("a FAULT at " + x.fault() + " of " + text);
+        }
+        return x;
     }
 
     /** A group whose MEMBERS have these whole numbers. */
