@@ -101,6 +101,8 @@ public final class EdgesOfKingsTest {
         e.value("four by nothing", x.king(1, 1), 5f);
         e.value("four by a word", x.king(2, 1), 5f);
         e.value("three alone", x.king(3, 1), 8f);
+        Check.lying(x, "liar 0{round 1 value 0;round 2 value 0;}");
+        e.same("but VALUE 0 is no DEFAULT", x.king(1, 1), 0);
     }
 
     private static void hasItself(Edge e) {
@@ -273,6 +275,16 @@ public final class EdgesOfKingsTest {
         e.same("the word is none that counts", x.echoes(0, 4), 1);
         Check.lying(x, "liar 0{round 1 to 3 value 0;true;}");
         e.same("VALUE 0 is one", x.echoesOf(0, 1, 3), 4);
+        OralOrders y = new OralOrders();
+        e.same("all heard one", y.echoes(3, 3), 27);
+        Check.lying(y, "liar 3{round 1 silent;true;}");
+        e.same("then none but 3 itself", y.echoes(3, 3), 3);
+        e.same("0 says none", y.echoesOf(3, 1, 3), 1);
+        OralOrders z = Check.group(2, 1, 2, 3, 4, 5, 6, 7);
+        for (int commander = 6; commander >= 0; commander--) {
+            e.value("of COMMANDER " + commander, z.echoesOf(commander, 3, 0), commander + 1);
+            e.same("seven ECHOES", z.echoesOf(commander, 3, 3), 7);
+        }
     }
 
     /** So many (the COMMANDER with them) heard 7 by the COMMANDER, the others nothing: do they say READY? */
@@ -427,11 +439,45 @@ public final class EdgesOfKingsTest {
         e.same("two unlike", z.echoes(0, 0) * 10 + z.echoes(0, 1), 22);
         OralOrders w = chain();
         e.same("4 and 5 alone are TRUE", w.echoes(0, 1), 2);
+        OralOrders all = Check.group(2, 1, 2, 3, 4, 5, 6, 7);
+        e.same("seven of seven, all alike", all.echoes(6, 0) * 10 + all.echoes(6, 1), 17);
+        // 0 hears READY 8 of 1 ahead of others' 1, the others hear 1 alone.
+        OralOrders v = Check.lying(Check.group(0, 1, 1, 1, 1, 1), "liar 4{to 0 silent;}"
+                + "liar 1{round 3 to 0 value 8;round 2 to 0 silent;}liar 2{to 0 silent;}");
+        e.value("0 ACCEPTED 8", v.echoesOf(3, 0, 0), 8f);
+        e.value("3 ACCEPTED 1", v.echoesOf(3, 3, 0), 1f);
+        e.same("two unlike", v.echoes(3, 0) * 10 + v.echoes(3, 1), 22);
+        for (int from = 0; from < 7; from++) {
+            e.same("one of two TRUE ones", oneOfTwo(from).echoes(from, 0) * 10 + oneOfTwo(from).echoes(from, 1), 11);
+        }
+    }
+
+    /**
+     * READY goes from one to the next, as in chain(), from a COMMANDER with VALUE 7 on: the fifth behind it hears
+     * it in ROUND 6, the one ahead of it never. These two alone are TRUE.
+     */
+    private static OralOrders oneOfTwo(int from) {
+        String lies = "liar A{round 1 true;round 2 to B true;silent;}liar B{round 3 to C true;silent;}"
+                + "liar C{round 2 to B true;round 3 to D true;silent;}"
+                + "liar D{round 2 to B true;round 3 to E true;silent;}liar E{round 3 to F true;silent;}";
+        for (int i = 0; i < 6; i++) {
+            lies = lies.replace((char) ('A' + i), (char) ('0' + (from + i) % 7));
+        }
+        OralOrders x = Check.group(0, new int[7]);
+        x.value(from, 7, 1);
+        return Check.lying(x, lies);
     }
 
     private static void lastRound(Edge e) {
         e.same("all at once", new OralOrders().echoes(0, 2), 3);
         e.same("in ROUND 6", chain().echoes(0, 2), 6);
+        for (int from = 0; from < 7; from++) {
+            OralOrders x = oneOfTwo(from);
+            int fifth = (from + 5) % 7;
+            e.same(fifth + " alone", x.echoes(from, 2), 6);
+            e.same("by itself", x.echoesOf(from, fifth, 1), 6);
+            e.same("the other one not", x.echoesOf(from, (from + 6) % 7, 1), 0);
+        }
         OralOrders x = Check.lying(Check.group(1, 3, 0, 0, 0), "liar 0{silent;}");
         e.same("none", x.echoes(0, 2), 0);
         Check.lying(x, "liar 0{}liar 1{}liar 2{}liar 3{}");

@@ -342,6 +342,11 @@ public final class EdgesOfLiesTest {
         fine(e, "liar 0000000000000000000000{}", 1);
         fine(e, "liar 0{value 00000099999/0000000999;}", 1);
         fine(e, "liar " + "0".repeat(292) + "1{}", 1);
+        // 0 and 9 are digits, the signs next to them are none.
+        lies(e, 4, "liar 0{value 9/9;}", 1, -1);
+        lies(e, 4, "liar /{}", -9, 5);
+        lies(e, 4, "liar :{}", -9, 5);
+        lies(e, 4, "liar 0:{}", -9, 6);
         lies(e, 4, "liar 10{}", -8, 5);
         lies(e, 4, "liar 01 0{}", -9, 8);
         // Those that would come out at 0 or 1 by an int's or a long's wrap-around.
@@ -356,6 +361,11 @@ public final class EdgesOfLiesTest {
     }
 
     private static void letters(Edge e) {
+        // a and z are letters, the signs next to them are none.
+        lies(e, 4, "liara 0{}", -9, 0);
+        lies(e, 4, "liarz 0{}", -9, 0);
+        lies(e, 4, "liar` 0{}", -9, 4);
+        lies(e, 4, "liar{ 0{}", -9, 4);
         lies(e, 4, "liars 0{}", -9, 0);
         lies(e, 4, "lia r 0{}", -9, 0);
         lies(e, 4, "Liar 0{}", -9, 0);

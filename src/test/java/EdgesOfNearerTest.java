@@ -11,6 +11,7 @@ public final class EdgesOfNearerTest {
         edge.at("P29", "So many STEPS (0 to 60) NEARER", EdgesOfNearerTest::nearerSteps);
         edge.at("P29", "by MEAN, MIDDLE (mode 0, 1)", EdgesOfNearerTest::nearerModes);
         edge.at("P29", "from the VALUES on: what a MEMBER has then (bits).", EdgesOfNearerTest::nearerOfNone);
+        edge.at("P29", "what a MEMBER has then (bits).", EdgesOfNearerTest::smallestOnes);
         edge.at("P30", "SPREAD behind so many STEPS (0 to 60) (bits).", EdgesOfNearerTest::spreadSteps);
         edge.at("P31", "The least STEPS (0 to 60) behind which SPREAD is", EdgesOfNearerTest::leastSteps);
         edge.at("P31", "a by b (a 0 at least) at most", EdgesOfNearerTest::atMost);
@@ -202,6 +203,22 @@ public final class EdgesOfNearerTest {
         for (int none : new int[] {-1, LEAST, GREATEST}) {
             e.noSuch("MEMBER " + none, x -> x.nearer(0, MEAN, none));
             e.noSuch("MEMBER " + none + ", ahead of STEPS", x -> x.nearer(-1, MEAN, none));
+        }
+    }
+
+    /** Divided by 7 sixty times, a float comes below the least power of two, and then to 0, its sign with it. */
+    private static void smallestOnes(Edge e) {
+        // Its own VALUE and six zeros; the liars' own VALUES are 0.
+        OralOrders x = Check.lying(Check.group(0, new int[7]), "liar 1{}liar 2{}liar 3{}liar 4{}liar 5{}liar 6{}");
+        for (int sign = -1; sign <= 1; sign += 2) {
+            x.value(0, sign, 999);
+            float due = (float) sign / 999f;
+            for (int steps = 0; steps <= 60; steps++) {
+                e.same("behind " + steps, x.nearer(steps, MEAN, 0), Float.floatToIntBits(due));
+                e.same("total", x.total(steps, MEAN), Double.doubleToLongBits(0.0 + (double) due));
+                due = (due + 0f) / 7f;
+            }
+            e.holds("0 at last", due == 0);
         }
     }
 

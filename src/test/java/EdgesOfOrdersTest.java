@@ -161,6 +161,12 @@ public final class EdgesOfOrdersTest {
         e.value("4 heard first", x.taken(0, 4, 0, 0), 1f);
         e.value("4 heard then", x.taken(0, 4, 1, 0), 2f);
         e.value("4 heard at last", x.taken(0, 4, 2, 0), 3f);
+        OralOrders y = Check.lying(Check.group(1, 7, 0, 0), "liar 2{to 0 value 3;silent;}");
+        e.value("said on by 0, if another one commands", y.taken(2, 1, 0, 0), 3f);
+        e.same("its messages", y.signedOf(2, 0, 2), 1);
+        OralOrders z = Check.lying(Check.group(1, 7, 5, 5), "liar 0{to 1 value 0;silent;}");
+        e.same("VALUE 0 is said on, too", z.signedOf(0, 2, 1), 1);
+        e.same("and TAKEN", z.taken(0, 2, 0, 0), 0);
     }
 
     private static void notSigned(Edge e) {
@@ -185,6 +191,15 @@ public final class EdgesOfOrdersTest {
         e.same("the COMMANDER said it to 2", x.signed(0, 3), 2);
         Check.lying(x, "liar 2{round 3 word;round 1 word;}");
         e.same("none said it to 2 in ROUND 2 anew", x.signed(0, 3), 0);
+        // 4 TAKES 5 of 1, 6 of 2, 8 of 3 in ROUND 2, and in ROUND 3 says words of what 2 said to it alone.
+        OralOrders y = Check.lying(Check.group(2, 7, 0, 0, 0, 0, 0),
+                "liar 0{to 1 value 5;to 2 value 6;to 3 value 8;silent;}liar 1{to 4 true;silent;}"
+                        + "liar 2{to 4 true;silent;}liar 3{to 4 true;silent;}liar 4{of 2 word;}");
+        e.same("4 TAKES three", y.signedOf(0, 4, 1), 3);
+        e.same("words of the second one, to 1, 3 and 5", y.signed(0, 3), 3);
+        e.value("5 hears the first one", y.taken(0, 5, 0, 0), 5f);
+        e.value("5 hears the third one", y.taken(0, 5, 1, 0), 8f);
+        e.same("5 hears these alone", y.signedOf(0, 5, 1), 2);
     }
 
     private static void forged(Edge e) {
@@ -196,6 +211,8 @@ public final class EdgesOfOrdersTest {
         e.same("the same VALUE", x.signed(0, 2), 0);
         Check.lying(x, "liar 2{value -1;}");
         e.same("another sign", x.signed(0, 2), 2);
+        Check.lying(x, "liar 2{value 0;}");
+        e.same("VALUE 0 is another, too", x.signed(0, 2), 2);
         Check.lying(x, "liar 0{value 9;}");
         e.same("none by a COMMANDER", x.signed(0, 2), 0);
         Check.lying(x, "liar 2{silent;}");

@@ -21,6 +21,7 @@ public final class EdgesOfRunTest {
     private static void paths(Edge edge) {
         edge.at("Terms", "A PATH: 1 to 3 unlike MEMBERS, the first one the COMMANDER.", EdgesOfRunTest::pathLengths);
         edge.at("Terms", "(that of p q r: r said that q said that p said it)", EdgesOfRunTest::pathOrder);
+        edge.at("Terms", "A MEMBER hears VALUES by PATHS", EdgesOfRunTest::allPaths);
         edge.at("Terms", "these hear it by the PATH of it alone.", EdgesOfRunTest::oneRound);
         edge.at("Terms", "says to each other one that is not in it", EdgesOfRunTest::noneLeftToTell);
         edge.at("Terms", "and it hears itself so, too (what it heard, always truly)", EdgesOfRunTest::hearsItself);
@@ -125,6 +126,36 @@ public final class EdgesOfRunTest {
         OralOrders x = ran(0, Check.group(2, 1, 0, 0, 0), "liar 2{round 3 of 1 value 7;}");
         e.value("2 said that 1 said", x.heard(3, 0, 1, 2, 0), 7f);
         e.value("1 said that 2 said", x.heard(3, 0, 2, 1, 0), 1f);
+    }
+
+    /** A liar says 9 to all others in all ROUNDS, whoever commands: just by the PATHS with it 9 is heard. */
+    private static void allPaths(Edge e) {
+        for (int commander = 0; commander < 7; commander++) {
+            for (int liar = 0; liar < 7; liar += 3) {
+                OralOrders x = Check.group(2, 1, 1, 1, 1, 1, 1, 1);
+                Check.lying(x, "liar " + liar + "{value 9;}").run(commander);
+                for (int b = 0; b <= 7; b++) {
+                    for (int c = 0; c <= 7; c++) {
+                        path(e, x, liar, new int[] {commander, b, c});
+                    }
+                }
+            }
+        }
+    }
+
+    private static void path(Edge e, OralOrders x, int liar, int[] p) {
+        int hearer = 0;
+        while (hearer == p[0] || hearer == p[1] || hearer == p[2] || hearer == liar) {
+            hearer++;
+        }
+        int who = hearer;
+        String call = "by [" + p[0] + " " + p[1] + " " + p[2] + "] of liar " + liar;
+        if (p[0] == p[1] || p[1] == p[2] || p[0] == p[2] || p[1] == 7 || p[2] == 7) {
+            e.same(call + ": no PATH", Check.thrown(() -> x.heard(who, p[0], p[1], p[2], 0)), 1);
+        } else {
+            boolean lied = p[0] == liar || p[1] == liar || p[2] == liar;
+            e.value(call, x.heard(who, p[0], p[1], p[2], 0), lied ? 9f : 1f);
+        }
     }
 
     private static void oneRound(Edge e) {
@@ -415,8 +446,24 @@ public final class EdgesOfRunTest {
         ran(3, x, "");
         OralOrders twin = ran(3, Check.group(1, 5, 6, 7, 8), "");
         e.alike("a run() ahead", Portrait.ofLatest(x), Portrait.ofLatest(twin));
+        for (int ahead = 0; ahead < 7; ahead++) {
+            for (int commander = 0; commander < 7; commander++) {
+                OralOrders y = ran(ahead, Check.group(2, 1, 2, 3, 4, 5, 6, 7), "liar 1{split 8 9;}liar 4{split 3 -3;}");
+                sameFound(e, ran(commander, y, "liar 5{round 3 split 1 2;}"), commander);
+            }
+        }
         e.noSuch("its PATHS", () -> ran(3, ran(0, Check.group(1, 5, 6, 7, 8), ""), ""),
                 y -> y.heard(1, 0, NONE, NONE, 0));
+    }
+
+    /** Nothing of a run() ahead of this one counts in FINDING, and so for STOP, nor elsewhere. */
+    private static void sameFound(Edge e, OralOrders x, int commander) {
+        OralOrders twin = ran(commander, Check.group(2, 1, 2, 3, 4, 5, 6, 7), "liar 5{round 3 split 1 2;}");
+        for (int member = 0; member < 7; member++) {
+            for (int what = 2; what <= 7; what++) {
+                e.same("MEMBER " + member + ", " + what, x.member(member, what), twin.member(member, what));
+            }
+        }
     }
 
     private static void memberRefused(Edge e) {
@@ -521,10 +568,20 @@ public final class EdgesOfRunTest {
             e.noSuch("heard by " + path + ", ahead of what", Portrait::used, x -> x.heard(3, p[0], p[1], p[2], 3));
             e.noSuch("common " + path, Portrait::used, x -> x.common(p[0], p[1], p[2]) ? 1 : 0);
         }
+        int[][] ofSeven = {{6, 7, NONE}, {6, 1, 7}, {6, 0, 0}, {6, 0, 7}, {6, 7, 0}, {6, 6, 0}, {7, 1, 2}};
+        for (int[] p : ofSeven) {
+            String path = "[" + p[0] + " " + p[1] + " " + p[2] + "] of seven";
+            e.noSuch("heard by " + path, EdgesOfRunTest::sevenRan, x -> x.heard(3, p[0], p[1], p[2], 0));
+            e.noSuch("common " + path, EdgesOfRunTest::sevenRan, x -> x.common(p[0], p[1], p[2]) ? 1 : 0);
+        }
         e.noSuch("no MEMBER", Portrait::used, x -> x.heard(5, 2, 1, NONE, 0));
         e.noSuch("no MEMBER -1", Portrait::used, x -> x.heard(-1, 2, 1, NONE, 3));
         e.noSuch("nothing is heard", OralOrders::new, x -> x.heard(1, 0, NONE, NONE, 0));
         e.noSuch("nothing is heard, ahead of what", OralOrders::new, x -> x.heard(1, 0, NONE, NONE, 9));
+    }
+
+    private static OralOrders sevenRan() {
+        return ran(6, Check.group(1, 1, 2, 3, 4, 5, 6, 7), "");
     }
 
     private static void aheadOfItsLast(Edge e) {
@@ -583,6 +640,10 @@ public final class EdgesOfRunTest {
         e.holds("two unlike", !y.common(0, NONE, NONE));
         ran(0, y, "liar 0{split 1 2;}liar 1{}");
         e.holds("one TRUE MEMBER not in it", y.common(0, NONE, NONE));
+        OralOrders z = ran(3, Check.group(0, 0, 0, 0, 0), "liar 3{to 0 value 1;}");
+        e.holds("MEMBER 0 unlike", !z.common(3, NONE, NONE));
+        ran(0, z, "liar 0{to 3 value 1;}");
+        e.holds("MEMBER 3 unlike", !z.common(0, NONE, NONE));
     }
 
     private static void commonRefused(Edge e) {
@@ -607,6 +668,10 @@ public final class EdgesOfRunTest {
         e.same("of 3", x.commons(3), 30);
         OralOrders y = ran(0, Check.group(0, new int[3]), "liar 0{split 1 2;}");
         e.same("none", y.commons(1), 0);
+        for (int commander = 0; commander < 7; commander++) {
+            ran(commander, x, "");
+            e.same("of each COMMANDER", x.commons(1) * 10000 + x.commons(2) * 100 + x.commons(3), 10630);
+        }
     }
 
     private static void coveredByItself(Edge e) {
@@ -622,6 +687,22 @@ public final class EdgesOfRunTest {
         e.same("ROUNDS 3: none of one, all of two", z.commons(1) * 10 + z.commons(2), 4);
         e.holds("ROUNDS 3: not each of three", z.commons(3) < 12);
         e.holds("ROUNDS 3: all are covered", z.covered());
+        coveredOrNot(e);
+    }
+
+    private static void coveredOrNot(Edge e) {
+        OralOrders x = ran(0, Check.group(1, 1, 0, 0, 0), "liar 3{split 5 6;}");
+        e.holds("[0 3] is not common", !x.common(0, 3, NONE));
+        e.holds("but the COMMANDER alone is", x.common(0, NONE, NONE) && x.covered());
+        // For [0 2], and for none but that of two, 1 hears 2 2 1, and 4 hears 2 1 1.
+        OralOrders y = ran(0, Check.group(2, 1, 0, 0, 0, 0), "liar 2{to 1 value 2;}liar 3{round 3 to 1 value 2;}");
+        e.holds("[0] and [0 2] are not common", !y.common(0, NONE, NONE) && !y.common(0, 2, NONE));
+        e.holds("[0 1], [0 3] and [0 4] are", y.common(0, 1, NONE) && y.common(0, 3, NONE) && y.common(0, 4, NONE));
+        e.holds("ROUNDS 3: not all are covered", !y.covered());
+        ran(0, y, "liar 4{to 1 value 2;}liar 3{round 3 to 1 value 2;}");
+        e.holds("[0] and [0 4] are not common", !y.common(0, NONE, NONE) && !y.common(0, 4, NONE));
+        e.holds("[0 1], [0 2] and [0 3] are", y.common(0, 1, NONE) && y.common(0, 2, NONE) && y.common(0, 3, NONE));
+        e.holds("ROUNDS 3: not all are covered likewise", !y.covered());
     }
 
     private static void notCovered(Edge e) {
@@ -644,6 +725,9 @@ public final class EdgesOfRunTest {
         e.holds("a liar that none agree with", y.agreed(1) && !y.agreed(0));
         ran(0, y, "liar 1{}liar 2{}");
         e.holds("none but the COMMANDER is TRUE", y.agreed(1));
+        OralOrders w = ran(3, Check.group(1, 0, 0, 0, 1), "liar 1{value 5;}liar 2{to 0 value 5;}");
+        e.value("MEMBER 0 on another one", w.member(0, 2), 5f);
+        e.holds("is enough", !w.agreed(1));
         for (int what : new int[] {-1, 2, LEAST, GREATEST}) {
             e.illegal("agreed(" + what + ")", z -> z.agreed(what) ? 1 : 0);
         }
