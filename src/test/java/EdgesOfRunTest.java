@@ -88,6 +88,7 @@ public final class EdgesOfRunTest {
         edge.at("P14", "How many PATHS of so many MEMBERS (1 to ROUNDS) are common() so.",
                 EdgesOfRunTest::commonsRefused);
         edge.at("P15", "a part from its beginning (or is one itself)", EdgesOfRunTest::coveredByItself);
+        edge.at("P15", "that is common() and RESOLVED alike by them all.", EdgesOfRunTest::coveredByCommon);
         edge.at("P15", "(false, if nothing is heard.)", EdgesOfRunTest::notCovered);
         edge.at("P16", "those but a TRUE COMMANDER on its VALUE (1; true, if the COMMANDER is a liar)",
                 EdgesOfRunTest::agreedOnOrder);
@@ -703,6 +704,23 @@ public final class EdgesOfRunTest {
         e.holds("[0] and [0 4] are not common", !y.common(0, NONE, NONE) && !y.common(0, 4, NONE));
         e.holds("[0 1], [0 2] and [0 3] are", y.common(0, 1, NONE) && y.common(0, 2, NONE) && y.common(0, 3, NONE));
         e.holds("ROUNDS 3: not all are covered likewise", !y.covered());
+    }
+
+    /** common() leaves out the last one of a PATH, though it has RESOLVED that, too: so does covered(). */
+    private static void coveredByCommon(Edge e) {
+        OralOrders x = ran(0, Check.group(2, new int[7]), "liar 0{to 5 value 2;to 6 value 3;value 1;}"
+                + "liar 3{round 3 to 2 of 1 value 13;round 3 to 5 of 1 value 23;}"
+                + "liar 4{round 3 to 2 of 1 value 14;round 3 to 5 of 1 value 24;}"
+                + "liar 6{round 3 to 2 of 1 value 16;round 3 to 5 of 1 value 26;}");
+        e.value("1 has it as it heard it", x.heard(1, 0, 1, NONE, 2), 1f);
+        e.same("2 and 5 hear 1, 1 and three unlike ones: DEFAULT",
+                x.heard(2, 0, 1, NONE, 2) | x.heard(5, 0, 1, NONE, 2), 0);
+        e.holds("by 2 and 5 [0 1] is common", x.common(0, 1, NONE));
+        e.holds("[0 1 3] is not", !x.common(0, 1, 3));
+        e.value("1 DECIDED", x.member(1, 2), 1f);
+        e.same("2 and 5 DECIDED", x.member(2, 2) | x.member(5, 2), 0);
+        e.holds("so [0] is not common", !x.common(0, NONE, NONE));
+        e.holds("all are covered, those of 1 by [0 1]", x.covered());
     }
 
     private static void notCovered(Edge e) {

@@ -2,14 +2,15 @@ import java.util.Random;
 
 /** Long runs of drawn calls (the same ones each time) on the program and on the Model. */
 public final class ModelTest {
-    private static final int RUNS = 1500;
-    private static final int CALLS = 150;
+    private static final int RUNS = 1800;
+    private static final int CALLS = 120;
     private static final int FACES = 35;
 
     private final Random random;
     private final OralOrders x = new OralOrders();
     private final Model m = new Model();
     private final Check check;
+    private int made;
 
     private ModelTest(Check check, long seed) {
         this.check = check;
@@ -51,7 +52,8 @@ public final class ModelTest {
             call(run, i, face, drawn(face));
             seenFrom++;
         }
-        check.same("calls made", seenFrom, CALLS);
+        check.same("calls drawn", seenFrom, CALLS);
+        check.holds("an object is used for 512 calls at most, not " + made, made <= 512);
     }
 
     private void setUp(int run) {
@@ -67,8 +69,39 @@ public final class ModelTest {
         }
         tellLies(run);
         if (random.nextBoolean()) {
-            call(run, -8, 6, new int[] {upTo(m.n - 1)});
+            call(run, -8, 6, new int[] {drawnCommander()});
+            if (upTo(3) == 0) {
+                tellLies(run);
+            }
+            askOfRun(run);
         }
+    }
+
+    /** Half of them liars, if there are any: of these alone the COMMANDER can be FOUND. */
+    private int drawnCommander() {
+        int liars = m.told(3);
+        int drawn = upTo(m.n - 1);
+        for (int i = 0; liars != 0 && i < m.n && random.nextBoolean() && (liars >> drawn & 1) == 0; i++) {
+            drawn = (drawn + 1) % m.n;
+        }
+        return drawn;
+    }
+
+    private void askOfRun(int run) {
+        for (int member = 0; member < m.n; member++) {
+            for (int what = 1; what <= 7; what++) {
+                call(run, -9, 8, new int[] {member, what});
+            }
+        }
+        for (int length = 1; length <= m.t + 1; length++) {
+            call(run, -9, 12, new int[] {length});
+        }
+        for (int what = 3; what <= 7; what++) {
+            call(run, -9, 7, new int[] {what});
+        }
+        call(run, -9, 13, new int[0]);
+        call(run, -9, 15, new int[] {0});
+        call(run, -9, 15, new int[] {1});
     }
 
     private void tellLies(int run) {
@@ -102,13 +135,18 @@ public final class ModelTest {
             for (int k = 0; k < count; k++) {
                 s.append(count > 10 ? upTo(3) == 0 ? "to 0true" : "true" : drawnLie()).append(blank()).append(";");
             }
-            s.append(blank()).append("}");
+            s.append(count == 12 ? drawnBehindTwelve() : "").append(blank()).append("}");
         }
         s.append(blank());
         if (random.nextInt(6) == 0) {
             spoil(s);
         }
         return s.toString();
+    }
+
+    private String drawnBehindTwelve() {
+        String[] behind = {"", "", "true;", "x", "round 9", "roundx", "of", ";", "{", "7", "liar 0", "to 1 silent;}"};
+        return blank() + behind[upTo(behind.length - 1)];
     }
 
     private void spoil(StringBuilder s) {
@@ -148,7 +186,7 @@ public final class ModelTest {
         if (upTo(2) > 0) {
             return "" + upTo(2);
         }
-        return (upTo(1) == 0 ? "-" : "") + blank() + upTo(upTo(1) == 0 ? 100 : 101000)
+        return (upTo(1) == 0 ? "-" : "") + blank() + upTo(upTo(3) == 0 ? 0 : upTo(1) == 0 ? 100 : 101000)
                 + (upTo(1) == 0 ? "/" + blank() + upTo(upTo(1) == 0 ? 10 : 1000) : "");
     }
 
@@ -197,6 +235,7 @@ public final class ModelTest {
     }
 
     private void call(int run, int i, int face, int[] a) {
+        made++;
         long[] got = new long[1];
         long[] due = new long[1];
         int threw = Check.thrown(() -> got[0] = ofProgram(face, a));
